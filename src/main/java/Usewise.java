@@ -304,10 +304,11 @@ public final class Usewise {
         }
 
         void putBehind(int months, int payment) {
-            for (int i = 0; i < months; i++) {
-                payments[term] = payment;
-                term++;
+            int end = Math.min(term + months, MOST_MONTHS);
+            for (int month = term; month < end; month++) {
+                payments[month] = payment;
             }
+            term = end;
             followDebt();
         }
 
