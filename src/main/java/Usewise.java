@@ -200,7 +200,8 @@ public final class Usewise {
     /**
      * One lease. At all times 0 <= past <= term <= MOST_MONTHS: the constructor and hasRoomFor()
      * see to the upper end, and monthsLeft() is asked before months pass or are taken off. So each
-     * month of the term has its place in both rows.
+     * month of the term has its place in both rows; at() and put() look all the same, since
+     * LANGUAGE.md wants each index looked at where it is used.
      */
     private static final class Lease {
         private final int rate;
@@ -225,10 +226,20 @@ public final class Usewise {
             payments = new int[MOST_MONTHS];
             debts = new int[MOST_MONTHS + 1];
             for (int month = free; month < this.term; month++) {
-                payments[month] = payment + step * (month / 12);
+                put(payments, month, payment + step * (month / 12));
             }
             layDebts();
             right = (long) debtNow() + costs;
+        }
+
+        private static int at(int[] row, int month) {
+            return month >= 0 && month < row.length ? row[month] : 0;
+        }
+
+        private static void put(int[] row, int month, int value) {
+            if (month >= 0 && month < row.length) {
+                row[month] = value;
+            }
         }
 
         int monthsLeft() {
@@ -236,11 +247,11 @@ public final class Usewise {
         }
 
         int debtNow() {
-            return debts[past];
+            return at(debts, past);
         }
 
         int paymentIn(int months) {
-            return payments[past + months];
+            return at(payments, past + months);
         }
 
         boolean hasRoomFor(int months) {
@@ -250,7 +261,7 @@ public final class Usewise {
         long worthAt(int someRate) {
             long worth = 0;
             for (int month = term - 1; month >= past; month--) {
-                worth = worthBefore(worth + payments[month], someRate);
+                worth = worthBefore(worth + at(payments, month), someRate);
             }
             return worth;
         }
@@ -261,9 +272,10 @@ public final class Usewise {
         }
 
         private void layDebts() {
-            debts[term] = 0;
+            put(debts, term, 0);
             for (int month = term - 1; month >= past; month--) {
-                debts[month] = (int) worthBefore((long) debts[month + 1] + payments[month], rate);
+                long worthAtEnd = (long) at(debts, month + 1) + at(payments, month);
+                put(debts, month, (int) worthBefore(worthAtEnd, rate));
             }
         }
 
@@ -276,8 +288,8 @@ public final class Usewise {
         }
 
         private void passOneMonth() {
-            int payment = payments[past];
-            interest += debts[past + 1] + payment - debts[past];
+            int payment = at(payments, past);
+            interest += at(debts, past + 1) + payment - at(debts, past);
             paid += payment;
             long off = right / monthsToWriteOver();
             written += off;
@@ -291,7 +303,7 @@ public final class Usewise {
 
         boolean wouldPassTheMost(int percent) {
             for (int month = past; month < term; month++) {
-                if (percentOf(payments[month], percent) > MOST_PAYMENT) {
+                if (percentOf(at(payments, month), percent) > MOST_PAYMENT) {
                     return true;
                 }
             }
@@ -306,7 +318,7 @@ public final class Usewise {
         void putBehind(int months, int payment) {
             int end = Math.min(term + months, MOST_MONTHS);
             for (int month = term; month < end; month++) {
-                payments[month] = payment;
+                put(payments, month, payment);
             }
             term = end;
             followDebt();
@@ -325,7 +337,7 @@ public final class Usewise {
 
         private void scalePayments(int percent) {
             for (int month = past; month < term; month++) {
-                payments[month] = (int) percentOf(payments[month], percent);
+                put(payments, month, (int) percentOf(at(payments, month), percent));
             }
         }
 

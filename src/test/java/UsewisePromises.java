@@ -5,21 +5,7 @@ import java.lang.reflect.Modifier;
 import java.util.TreeSet;
 
 /** For each promise: ordinary inputs, the edges that the document names, and wrong inputs. */
-public final class UsewisePromises {
-    private static final Class<?> INDEX = IndexOutOfBoundsException.class;
-    private static final Class<?> ARGUMENT = IllegalArgumentException.class;
-    private static final Class<?> STATE = IllegalStateException.class;
-    private static final int LOW = Integer.MIN_VALUE;
-    private static final int HIGH = Integer.MAX_VALUE;
-
-    private static int checks = 0;
-    private static int wrong = 0;
-    private static String promise = "";
-
-    private interface Call {
-        int run();
-    }
-
+public final class UsewisePromises extends Checks {
     public static void main(String[] args) {
         theFace();
         aNewObject();
@@ -51,10 +37,7 @@ public final class UsewisePromises {
         whichExceptionComesFirst();
         throwingChangesNothing();
         leasesStandAlone();
-        System.out.println(checks + " checks, " + wrong + " wrong");
-        if (wrong != 0) {
-            System.exit(1);
-        }
+        end();
     }
 
     // ---- the face
@@ -768,84 +751,10 @@ public final class UsewisePromises {
         same("the other object", y.toCome(0), 20);
     }
 
-    // ---- helpers
-
-    private static int add(Usewise x, int term, int payment) {
-        return x.add(term, payment, 0, 0, 0, 120, 0);
-    }
-
-    private static int add(Usewise x, int[] a) {
-        return x.add(a[0], a[1], a[2], a[3], a[4], a[5], a[6]);
-    }
-
-    private static int reviews(Usewise x, int lease, int percent, int times) {
-        int debt = x.debt(lease);
-        for (int i = 0; i < times; i++) {
-            debt = x.review(lease, percent);
-        }
-        return debt;
-    }
-
-    private static int passes(Usewise x, int times) {
-        int ended = 0;
-        for (int i = 0; i < times; i++) {
-            ended += x.pass(24);
-        }
-        return ended;
-    }
-
-    private static String stateOf(Usewise x) {
-        StringBuilder text = new StringBuilder();
-        for (int month = 0; month < x.toCome(0); month++) {
-            text.append(x.payment(0, month)).append(' ');
-        }
-        int[] sums = {x.debt(0), x.debtByWorth(0), x.right(0), x.interest(0), x.written(0), x.paid(0), x.gains(0)};
-        for (int sum : sums) {
-            text.append(sum).append(' ');
-        }
-        return text.toString();
-    }
-
     private static void sums(String what, Usewise x, int interest, int written, int paid, int gains) {
         same(what + ", interest", x.interest(0), interest);
         same(what + ", written", x.written(0), written);
         same(what + ", paid", x.paid(0), paid);
         same(what + ", gains", x.gains(0), gains);
-    }
-
-    private static void fails(String what, Class<?> due, Call call) {
-        String got;
-        try {
-            got = "answered " + call.run();
-        } catch (RuntimeException thrown) {
-            if (thrown.getClass() == due) {
-                checks++;
-                return;
-            }
-            got = "threw " + thrown;
-        }
-        tell(what + " " + got + ", due is " + due.getSimpleName());
-    }
-
-    private static void same(String what, long got, long due) {
-        if (got == due) {
-            checks++;
-        } else {
-            tell(what + " answered " + got + ", due is " + due);
-        }
-    }
-
-    private static void yes(String what, boolean holds) {
-        if (holds) {
-            checks++;
-        } else {
-            tell(what + " does not hold");
-        }
-    }
-
-    private static void tell(String text) {
-        checks++;
-        wrong++;
-        System.out.println("promise " + promise + ": " + text);
     }
 }
