@@ -291,14 +291,12 @@ public final class Usewise {
             int payment = at(payments, past);
             interest += at(debts, past + 1) + payment - at(debts, past);
             paid += payment;
-            long off = right / monthsToWriteOver();
+            // Behind its life this is below 1: then, as in its last month, nothing may be left over.
+            int monthsOfUse = Math.min(term, life) - past;
+            long off = monthsOfUse > 1 ? right / monthsOfUse : right;
             written += off;
             right -= off;
             past++;
-        }
-
-        private int monthsToWriteOver() {
-            return Math.max(1, Math.min(term - past, life - past));
         }
 
         boolean wouldPassTheMost(int percent) {

@@ -191,5 +191,18 @@ public final class EdgesOfRatesAndSales extends Checks {
             x.pass(2);
             same("over", x.saleGain(0, 0, 400), 400);
         });
+        edge("18: the price less the debt: the debt, and not the right", () -> {
+            Usewise x = new Usewise();
+            x.add(4, 100, 0, 0, 0, 1, 10000);
+            same("a right far above the debt", x.saleGain(0, 0, 1000), 600);
+            x.pass(1);
+            same("a right of 0", x.saleGain(0, 0, 1000), 700);
+        });
+        edge("18: the price less the debt: the debt, and not the sum of the payments", () -> {
+            Usewise x = new Usewise();
+            x.add(3, 100, 0, 0, 10000, 3, 0);
+            same("a debt of 297", x.saleGain(0, 0, 298), 1);
+            same("the half of it", x.saleGain(0, 0, 594), 297);
+        });
     }
 }

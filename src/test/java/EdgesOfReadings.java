@@ -215,6 +215,16 @@ public final class EdgesOfReadings extends Checks {
             x.pass(24);
             same("and no more", x.written(0), 17000);
         });
+        edge("14: all that was written off so far: the greatest right, all at once", () -> {
+            Usewise x = new Usewise();
+            x.add(60, 10000, 0, 0, 0, 1, 0);
+            x.lengthen(0, 36, 10000);
+            x.lengthen(0, 24, 10000);
+            toTheMost(x, 0);
+            x.pass(1);
+            same("120 payments of 1000000", x.written(0), 120000000);
+            same("no right is left", x.right(0), 0);
+        });
         edge("14: what is given up or taken off the right is not written off", () -> {
             Usewise x = one(4, 100);
             x.cut(0, 50);
